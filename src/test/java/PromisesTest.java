@@ -170,6 +170,15 @@ final class PromisesTest {
     }
 
     private static void depth() {
+        QueryReader x = new QueryReader();
+        Checks.read(x, "select ((a))");
+        Checks.same("depth of the first text", x.depth(), 2);
+        Checks.read(x, "select (a");
+        Checks.same("depth of the text read last", x.depth(), 1);
+        x.feed(0x28282828, 0x28282828, 0x28282828, 0x28282828, 0x28282828);
+        Checks.same("depth while the next text comes", x.depth(), 1);
+        x.read();
+        Checks.same("depth of a text that is none from its beginning", x.depth(), 0);
         depthIs("commit", 0, 0);
         depthIs("select (a)", 0, 1);
         depthIs("select ((a)), (b)", 0, 2);
