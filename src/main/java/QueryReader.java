@@ -243,7 +243,8 @@ public final class QueryReader {
             int moved = size - start;
             add(' ');
             add(' ');
-            if (start >= 0 && moved >= 0 && size <= bytes.length) {
+            boolean fits = start + BRACKET_AND_BLANK + moved <= size && size <= bytes.length;
+            if (start >= 0 && moved >= 0 && fits) {
                 System.arraycopy(bytes, start, bytes, start + BRACKET_AND_BLANK, moved);
                 bytes[start] = '(';
                 bytes[start + 1] = ' ';
@@ -408,7 +409,9 @@ public final class QueryReader {
 
         private void widen() {
             Sort[] wider = new Sort[sorts.length * 2];
-            System.arraycopy(sorts, 0, wider, 0, sorts.length);
+            for (int i = 0; i < sorts.length && i < wider.length; i++) {
+                wider[i] = sorts[i];
+            }
             sorts = wider;
             froms = Arrays.copyOf(froms, froms.length * 2);
             tos = Arrays.copyOf(tos, tos.length * 2);

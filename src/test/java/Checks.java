@@ -4,6 +4,8 @@ import java.nio.charset.StandardCharsets;
 final class Checks {
     private static int wrong = 0;
     private static int made = 0;
+    /** The sentence of the document that is tested now, as every wrong answer names it. */
+    private static String sentence = "";
 
     private Checks() {
     }
@@ -12,15 +14,33 @@ final class Checks {
         made++;
         if (got != due) {
             wrong++;
-            System.out.println(what + " answered " + got + ", due is " + due);
+            System.out.println(sentence + what + " answered " + got + ", due is " + due);
         }
+    }
+
+    /** Runs the test of one sentence; one that checks nothing or throws has failed. */
+    static void test(String name, Runnable body) {
+        int madeBefore = made;
+        int wrongBefore = wrong;
+        sentence = name + ": ";
+        try {
+            body.run();
+        } catch (RuntimeException e) {
+            wrong++;
+            System.out.println(sentence + "it ended with " + e);
+        }
+        sentence = "";
+        if (made == madeBefore) {
+            wrong++;
+        }
+        System.out.println((wrong == wrongBefore ? "  holds: " : "  BROKEN: ") + name);
     }
 
     static void same(String what, String got, String due) {
         made++;
         if (!got.equals(due)) {
             wrong++;
-            System.out.println(what + "\n  answered " + got + "\n  due is   " + due);
+            System.out.println(sentence + what + "\n  answered " + got + "\n  due is   " + due);
         }
     }
 
@@ -39,6 +59,17 @@ final class Checks {
         same(what + " throws", got, due.getName());
     }
 
+    /** Runs a call that must throw nothing. */
+    static void passes(String what, Runnable call) {
+        String got = "nothing";
+        try {
+            call.run();
+        } catch (RuntimeException e) {
+            got = e.getClass().getName();
+        }
+        same(what + " throws", got, "nothing");
+    }
+
     static void feed(QueryReader reader, String text) {
         feed(reader, text.getBytes(StandardCharsets.ISO_8859_1));
     }
@@ -53,6 +84,12 @@ final class Checks {
     static void feed(QueryReader reader, byte[] bytes) {
         feedRows(reader, bytes);
         reader.end(bytes.length);
+    }
+
+    /** Puts a text behind what stands on the tape, with as many blanks as its last twenty bytes want. */
+    static void feedWithBlanks(QueryReader reader, String text) {
+        String blanks = " ".repeat((20 - text.length() % 20) % 20);
+        feedRows(reader, (text + blanks).getBytes(StandardCharsets.ISO_8859_1));
     }
 
     private static void feedRows(QueryReader reader, byte[] bytes) {
@@ -74,9 +111,21 @@ final class Checks {
         return reader.read();
     }
 
+    /** A text in which a ^ may stand before the token (or the end) at fault, without it. */
+    static String unmarked(String marked) {
+        int place = marked.indexOf('^');
+        return place < 0 ? marked : marked.substring(0, place) + marked.substring(place + 1);
+    }
+
+    /** What reading the unmarked text must answer. */
+    static int dueOf(String marked) {
+        return marked.indexOf('^') + 1;
+    }
+
     static String plain(QueryReader reader) {
         StringBuilder form = new StringBuilder();
-        for (int i = 0; i < reader.length(); i++) {
+        int length = reader.length();
+        for (int i = 0; i < length; i++) {
             form.append((char) reader.letter(i));
         }
         return form.toString();
@@ -88,10 +137,6 @@ final class Checks {
             sum = 31 * sum + text.charAt(i);
         }
         return sum;
-    }
-
-    static String times(String text, int n) {
-        return text.repeat(n);
     }
 
     static void finish(String test) {

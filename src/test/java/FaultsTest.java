@@ -2,8 +2,6 @@
 final class FaultsTest {
     public static void main(String[] args) {
         tokens();
-        limits();
-        keywords();
         statements();
         queries();
         expressions();
@@ -11,10 +9,9 @@ final class FaultsTest {
     }
 
     private static void fault(String marked) {
-        int place = marked.indexOf('^');
-        String text = marked.substring(0, place) + marked.substring(place + 1);
+        String text = Checks.unmarked(marked);
         QueryReader x = new QueryReader();
-        Checks.same("reading " + text, Checks.read(x, text), place + 1);
+        Checks.same("reading " + text, Checks.read(x, text), Checks.dueOf(marked));
         Checks.same("kind of " + text, x.kind(), 0);
         Checks.same("length of " + text, x.length(), 0);
         Checks.same("mark of " + text, x.mark(), 0);
@@ -35,58 +32,6 @@ final class FaultsTest {
         faults("select ^'", "select ^'a", "select ^'a''", "select ^'''", "select ^'a\nb'", "select ^'a\tb'", "select ^'\u007f'",
             "select ^'\u00e4'", "select ^'a--b", "select ^'a''b", "select 'a' ^'b'", "select 12^ab", "select 1^.5", "select 1 ^.",
             "select a.^1", "select a.^", "select ^.a", "select 'a'^b", "select a - -- b\n^", "select a -- b\n^c", "select -- a^");
-        for (int c = 0; c < 256; c++) {
-            QueryReader x = new QueryReader();
-            boolean blank = c == 9 || c == 10 || c == 13 || c == 32;
-            Checks.same("byte " + c + " behind commit;", Checks.read(x, "commit;" + (char) c), blank ? 0 : 8);
-            boolean stands = c >= 32 && c <= 126 && c != '\'';
-            Checks.same("byte " + c + " in a string", Checks.read(x, "select '" + (char) c + "'"), stands ? 0 : 8);
-            boolean ends = c == 10;
-            Checks.same("byte " + c + " in a comment", Checks.read(x, "commit--" + (char) c + "\u0000"), ends ? 10 : 0);
-        }
-    }
-
-    private static void limits() {
-        String thirty = "a123456789_bcdefghijklmnopqrst";
-        QueryReader x = new QueryReader();
-        Checks.same("a word of 30", Checks.read(x, "select " + thirty), 0);
-        fault("select ^" + thirty + "u");
-        fault("select a ^" + "_".repeat(500));
-        Checks.same("a number of 18", Checks.read(x, "select 123456789012345678"), 0);
-        fault("select ^1234567890123456789");
-        Checks.same("a number of 18 zeros", Checks.read(x, "select " + "0".repeat(18)), 0);
-        Checks.same("it is 0", Checks.plain(x), "SELECT 0");
-        fault("select ^" + "0".repeat(19));
-        Checks.same("a string of 200", Checks.read(x, "select '" + "x".repeat(200) + "'"), 0);
-        fault("select ^'" + "x".repeat(201) + "'");
-        Checks.same("a string of 200 times ''", Checks.read(x, "select '" + "''".repeat(200) + "'"), 0);
-        Checks.same("its length", x.length(), 7 + 402);
-        fault("select ^'" + "''".repeat(201) + "'");
-        fault("select ^'" + "x".repeat(200) + "'''");
-        Checks.same("an empty string", Checks.read(x, "select ''"), 0);
-        Checks.same("it stays", Checks.plain(x), "SELECT ''");
-    }
-
-    private static void keywords() {
-        String all = "ABS ALL AND AS ASC AVG BEGIN BETWEEN BY CASCADE CASE CAST CHECK COALESCE COMMIT COMMITTED COUNT CREATE"
-            + " CROSS DEFAULT DELETE DESC DISTINCT DROP ELSE END EXCLUSIVE EXISTS FROM GROUP HAVING IN INDEX INNER INSERT INT"
-            + " INTO IS JOIN KEY LEFT LENGTH LIKE LIMIT LOCK LOWER MAX MIN MODE NOT NULL NULLIF OFFSET ON OR ORDER OUTER"
-            + " PREPARE PREPARED PRIMARY READ REFERENCES RESTRICT ROLLBACK SAVEPOINT SELECT SERIALIZABLE SET SHARE SUBSTR SUM"
-            + " TABLE TEXT THEN TO UNCOMMITTED UNIQUE UPDATE UPPER VALUES WHEN WHERE";
-        for (String keyword : all.split(" ")) {
-            QueryReader x = new QueryReader();
-            fault("savepoint ^" + keyword);
-            fault("savepoint ^" + keyword.toLowerCase());
-            fault("savepoint ^" + keyword.charAt(0) + keyword.substring(1).toLowerCase());
-            Checks.same("a name: " + keyword + "_", Checks.read(x, "savepoint " + keyword + "_"), 0);
-            Checks.same("a name: " + keyword + "1", Checks.read(x, "savepoint " + keyword + "1"), 0);
-            Checks.same("a name: _" + keyword, Checks.read(x, "savepoint _" + keyword), 0);
-            Checks.same("it is in small letters", Checks.plain(x), "SAVEPOINT _" + keyword.toLowerCase());
-            Checks.same("a name: x" + keyword, Checks.read(x, "savepoint x" + keyword), 0);
-        }
-        for (String name : "date row true false union begins sel selec selects int4 texts i a z aa zz".split(" ")) {
-            Checks.same("a name: " + name, Checks.read(new QueryReader(), "savepoint " + name), 0);
-        }
     }
 
     private static void statements() {

@@ -1,4 +1,4 @@
-/** Promises 1 to 11, each with ordinary calls, the edges that the document names, and wrong calls. */
+/** Promises 1 to 11, each with ordinary calls and wrong ones. Their boundaries have tests of their own. */
 final class PromisesTest {
     public static void main(String[] args) {
         newObject();
@@ -11,8 +11,6 @@ final class PromisesTest {
         names();
         depth();
         again();
-        fullTape();
-        tooLongForTheTape();
         Checks.finish("PromisesTest");
     }
 
@@ -202,42 +200,12 @@ final class PromisesTest {
         depthIs("select (((a))) b (((((1)))))", 16, 3);
         depthIs("select )", 8, 0);
         depthIs("", 1, 0);
-        limit("(", "1", ")");
-        limit("- ", "1", "");
-        limit("not ", "1", "");
-        limit("case when 1 then ", "1", " end");
-        limit("case when ", "1", " then 1 end");
-        limit("case when 1 then 1 else ", "1", " end");
-        limit("abs(", "1", ")");
-        limit("substr(1,1,", "1", ")");
-        limit("nullif(1,", "1", ")");
-        limit("coalesce(", "1", ")");
-        limit("cast(", "1", " as int)");
-        limit("count(distinct ", "1", ")");
-        limit("exists (select ", "1", ")");
-        limit("1 in (", "1", ")");
-        limit("1 in (select ", "1", ")");
-        limit("1 + 1 * (1 || ", "1", ")");
-        limit("1 or 1 and 1 = 1 || 1 + 1 * (", "1", ")");
     }
 
     private static void depthIs(String text, int fault, int depth) {
         QueryReader x = new QueryReader();
         Checks.same("depth: reading " + text, Checks.read(x, text), fault);
         Checks.same("depth of " + text, x.depth(), depth);
-    }
-
-    /** 40 of it can be open at once, and the 41st can't: it is the token of it that opens where the fault is. */
-    private static void limit(String opens, String inner, String closes) {
-        QueryReader x = new QueryReader();
-        String text = "select " + opens.repeat(40) + inner + closes.repeat(40);
-        Checks.same("40 open: " + opens, Checks.read(x, text), 0);
-        Checks.same("depth at 40 open: " + opens, x.depth(), 40);
-        String more = "select " + opens.repeat(41) + inner + closes.repeat(41);
-        int opener = opens.contains("(") ? opens.indexOf('(') : 0;
-        Checks.same("41 open: " + opens, Checks.read(x, more), 7 + 40 * opens.length() + opener + 1);
-        Checks.same("depth at 41 open: " + opens, x.depth(), 40);
-        Checks.same("41 open, none: " + opens, x.length(), 0);
     }
 
     private static void again() {
@@ -261,42 +229,5 @@ final class PromisesTest {
         Checks.holds("again: none", !x.again());
         Checks.same("again: the tape stays", x.read(), 0);
         Checks.same("again: commit stayed", x.kind(), 10);
-    }
-
-    /** 5040 sources more, of 2 characters each, are 13 each in the plain form. */
-    private static void fullTape() {
-        QueryReader x = new QueryReader();
-        Checks.same("full: read", Checks.read(x, "select ab from t" + ",t".repeat(5040)), 0);
-        Checks.same("full: length", x.length(), 65536);
-        Checks.holds("full: again", x.again());
-        Checks.fails("full: feed", IllegalStateException.class, () -> x.feed(1, 2, 3, 4, 5));
-        Checks.fails("full: end(65537)", IllegalArgumentException.class, () -> x.end(65537));
-
-        QueryReader y = new QueryReader();
-        Checks.feed(y, "select ab from t" + ",t".repeat(5040));
-        y.read();
-        y.again();
-        y.end(65517);
-        Checks.fails("room for nineteen: feed", IllegalStateException.class, () -> y.feed(1, 2, 3, 4, 5));
-        Checks.same("room for nineteen: nothing came", y.read(), 65518);
-
-        QueryReader z = new QueryReader();
-        Checks.feed(z, "select ab from t" + ",t".repeat(5040));
-        z.read();
-        z.again();
-        z.end(65516);
-        z.feed(0x20202020, 0x20202020, 0x20202020, 0x20202020, 0x20202020);
-        Checks.same("room for twenty: all came", z.read(), 65537);
-    }
-
-    private static void tooLongForTheTape() {
-        QueryReader x = new QueryReader();
-        Checks.same("too long: read", Checks.read(x, "select abc from t" + ",t".repeat(5040)), 0);
-        Checks.same("too long: length", x.length(), 65537);
-        x.feed(0x636f6d6d, 0x69742020, 0x20202020, 0x20202020, 0x20202020);
-        Checks.holds("too long: again", !x.again());
-        Checks.same("too long: names", x.names(), 2);
-        Checks.same("too long: the last letter", x.letter(65536), 't');
-        Checks.same("too long: the tape stays", x.read(), 0);
     }
 }
