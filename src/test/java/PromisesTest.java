@@ -11,6 +11,7 @@ final class PromisesTest {
         names();
         depth();
         again();
+        readmeExample();
         Checks.finish("PromisesTest");
     }
 
@@ -229,5 +230,20 @@ final class PromisesTest {
         Checks.holds("again: none", !x.again());
         Checks.same("again: the tape stays", x.read(), 0);
         Checks.same("again: commit stayed", x.kind(), 10);
+    }
+
+    /** The calls that README.md shows, with the answers that it tells. */
+    private static void readmeExample() {
+        QueryReader reader = new QueryReader();
+        reader.feed(0x73656c65, 0x63742061, 0x2d622066, 0x726f6d20, 0x742c7520);
+        reader.end(19);
+        Checks.same("README: read", reader.read(), 0);
+        Checks.same("README: kind", reader.kind(), 8);
+        Checks.same("README: the plain form", Checks.plain(reader), "SELECT ( a - b ) FROM t CROSS JOIN u");
+        Checks.same("README: length", reader.length(), 36);
+        Checks.same("README: letter", reader.letter(0), 'S');
+        Checks.same("README: names", reader.names(), 4);
+        Checks.same("README: depth", reader.depth(), 0);
+        Checks.holds("README: again", reader.again());
     }
 }

@@ -5,7 +5,8 @@ import java.util.TreeSet;
 
 /**
  * Makes statements as trees, and writes each tree twice: as a text with brackets, blanks, comments and words that make no
- * difference, and as the plain form that is due. Every answer about the text must be the tree's.
+ * difference, and as the plain form that is due. Every answer about the text must be the tree's; and about the text
+ * broken at one of its tokens, the place and the depth up to there.
  */
 final class SentenceTest {
     private static final int OR = 1;
@@ -24,6 +25,8 @@ final class SentenceTest {
     private static TreeSet<String> names;
     private static int open;
     private static int most;
+    /** Before each token: how long the text was, and the most that were open up to there. */
+    private static List<int[]> cuts;
 
     public static void main(String[] args) {
         for (int i = 0; i < 20000; i++) {
@@ -33,18 +36,19 @@ final class SentenceTest {
             names = new TreeSet<>();
             open = 0;
             most = 0;
+            cuts = new ArrayList<>();
             tree.write(0);
             text.append(Arrays.asList("", ";", " ;", ";-- x", "\n").get(random(5)));
-            check(kind, text.toString(), tree.plain());
+            if (text.length() <= 8000) {
+                check(kind, text.toString(), tree.plain());
+                checkBroken(text.toString());
+            }
         }
         Checks.finish("SentenceTest");
     }
 
     private static void check(int kind, String sentence, String plain) {
         QueryReader x = new QueryReader();
-        if (sentence.length() > 8000) {
-            return;
-        }
         Checks.same("reading " + sentence, Checks.read(x, sentence), 0);
         Checks.same("kind of " + sentence, x.kind(), kind);
         Checks.same("length of " + sentence, x.length(), plain.length());
@@ -63,6 +67,17 @@ final class SentenceTest {
         }
     }
 
+    /** The text up to one of its tokens, and there what begins no token: its depth is the most up to there. */
+    private static void checkBroken(String sentence) {
+        int[] cut = cuts.get(random(cuts.size()));
+        String broken = sentence.substring(0, cut[0]) + " $((";
+        QueryReader x = new QueryReader();
+        Checks.same("reading " + broken, Checks.read(x, broken), cut[0] + 2);
+        Checks.same("depth of " + broken, x.depth(), cut[1]);
+        Checks.same("kind of " + broken, x.kind(), 0);
+        Checks.same("names of " + broken, x.names(), 0);
+    }
+
     private static int random(int below) {
         seed = seed * 6364136223846793005L + 1442695040888963407L;
         return (int) ((seed >>> 33) % below);
@@ -73,6 +88,7 @@ final class SentenceTest {
     }
 
     private static void put(String token) {
+        cuts.add(new int[] {text.length(), most});
         text.append(Arrays.asList(" ", " ", "\n", "\t ", " -- 'c\n", "  ").get(random(6))).append(token);
     }
 
